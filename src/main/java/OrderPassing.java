@@ -238,7 +238,7 @@ public final class OrderPassing {
         stretch.set(0);
         for (int last = first; last < YEARS; last++) {
             stretch.add(passing.sumAt(date, last));
-            if (stretch.compareWith(whole) >= 0) {
+            if (stretch.isAtLeast(whole)) {
                 return last;
             }
         }
@@ -675,7 +675,7 @@ public final class OrderPassing {
 
         void add(Great other) {
             long carry = 0;
-            int used = Math.max(size, other.size);
+            int used = size > other.size ? size : other.size;
             int i = 0;
             for (; i < LIMBS && (i < used || carry > 0); i++) {
                 long sum = limbs[i] + other.limbs[i] + carry;
@@ -687,7 +687,7 @@ public final class OrderPassing {
 
         /** Multiplies it by another number, which must not be itself. */
         void multiply(Great other) {
-            int used = Math.min(LIMBS, size + other.size);
+            int used = size + other.size < LIMBS ? size + other.size : LIMBS;
             // from the highest limb down, so that each is read before products fall on it
             for (int i = size - 1; i >= 0; i--) {
                 long limb = limbs[i];
@@ -705,13 +705,13 @@ public final class OrderPassing {
             size = used;
         }
 
-        int compareWith(Great other) {
+        boolean isAtLeast(Great other) {
             for (int i = LIMBS - 1; i >= 0; i--) {
                 if (limbs[i] != other.limbs[i]) {
-                    return limbs[i] < other.limbs[i] ? -1 : 1;
+                    return limbs[i] > other.limbs[i];
                 }
             }
-            return 0;
+            return true;
         }
 
         int digitAt(int digit) {

@@ -411,6 +411,11 @@ public final class PromisesTest {
         EXPECT.same("not enough", x.narrow(0, 1000, 1000), 5);
         x.weight(0, 5, 2);
         EXPECT.same("a hair too little", x.narrow(0, 999, 1000), 5);
+        OrderPassing y = withDates(1);
+        y.weight(0, 7, 1);
+        y.outlier(0, 1, 1);
+        EXPECT.same("a twelfth is a twelfth", y.narrow(0, 1, 12), 0);
+        EXPECT.same("a twelfth is no eleventh", y.narrow(0, 1, 11), 1);
     }
 
     private static void fits() {
