@@ -1,3 +1,4 @@
+import java.util.NoSuchElementException;
 import java.util.Objects;
 
 /** Counts the answers that are not as due, and ends a test with exit code 1 if there was one. */
@@ -27,6 +28,24 @@ final class Expect {
     /** The exception must be of this very class: one that the machine throws is never due. */
     void fails(String call, Class<? extends RuntimeException> due, Call made) {
         same(call, outcome(made), "throws." + due.getSimpleName());
+    }
+
+    void noSuch(String call, Call made) {
+        fails(call, NoSuchElementException.class, made);
+    }
+
+    void argument(String call, Call made) {
+        fails(call, IllegalArgumentException.class, made);
+    }
+
+    void state(String call, Call made) {
+        fails(call, IllegalStateException.class, made);
+    }
+
+    /** The call must answer, whatever it answers. */
+    void answers(String call, Call made) {
+        Object got = outcome(made);
+        same(call + ", which answered " + got, String.valueOf(got).startsWith("throws."), false);
     }
 
     /** A call's answer, or the name of what it throws. */

@@ -1,5 +1,4 @@
 import java.math.BigInteger;
-import java.util.NoSuchElementException;
 
 /** Each promise by hand: ordinary inputs, the edges that the document names, and wrong inputs. */
 public final class PromisesTest {
@@ -7,10 +6,6 @@ public final class PromisesTest {
     private static final int[] WRONG_YEARS = {-1, 12, Integer.MIN_VALUE, Integer.MAX_VALUE};
     private static final int[] WRONG_DIGITS = {-1, 48, Integer.MIN_VALUE, Integer.MAX_VALUE};
     private static final int[] WRONG_BOUNDS = {-1, 2, Integer.MIN_VALUE, Integer.MAX_VALUE};
-
-    private interface Digit {
-        int at(int digit);
-    }
 
     private PromisesTest() {
     }
@@ -39,37 +34,8 @@ public final class PromisesTest {
         EXPECT.finish();
     }
 
-    private static OrderPassing withDates(int number) {
-        OrderPassing x = new OrderPassing();
-        for (int i = 0; i < number; i++) {
-            x.date();
-        }
-        return x;
-    }
-
-    /** All 48 digits of a sum. */
-    private static BigInteger read(Digit digit) {
-        BigInteger sum = BigInteger.ZERO;
-        for (int i = 47; i >= 0; i--) {
-            sum = sum.multiply(BigInteger.TEN).add(BigInteger.valueOf(digit.at(i)));
-        }
-        return sum;
-    }
-
-    private static void sum(String call, Digit digit, long due) {
-        EXPECT.same(call, read(digit), BigInteger.valueOf(due));
-    }
-
-    private static void noSuch(String call, Expect.Call made) {
-        EXPECT.fails(call, NoSuchElementException.class, made);
-    }
-
-    private static void argument(String call, Expect.Call made) {
-        EXPECT.fails(call, IllegalArgumentException.class, made);
-    }
-
-    private static void state(String call, Expect.Call made) {
-        EXPECT.fails(call, IllegalStateException.class, made);
+    private static void sum(String call, Given.Digit digit, long due) {
+        EXPECT.same(call, Given.sum(digit), BigInteger.valueOf(due));
     }
 
     private static void newObject() {
@@ -80,12 +46,12 @@ public final class PromisesTest {
         sum("new total", x::total, 1);
         EXPECT.same("new fits", x.fits(), true);
         EXPECT.same("new fitless", x.fitless(0), -1);
-        noSuch("new answered", () -> x.answered(0, 0, 0));
-        state("new bound", () -> x.bound(0, 0, 0));
-        noSuch("new both", () -> x.both(0, 0, 0, 0, 0));
-        noSuch("new member", () -> x.member(0));
-        noSuch("new row", () -> x.row(0, 0, 0, 0));
-        OrderPassing other = withDates(2);
+        EXPECT.noSuch("new answered", () -> x.answered(0, 0, 0));
+        EXPECT.state("new bound", () -> x.bound(0, 0, 0));
+        EXPECT.noSuch("new both", () -> x.both(0, 0, 0, 0, 0));
+        EXPECT.noSuch("new member", () -> x.member(0));
+        EXPECT.noSuch("new row", () -> x.row(0, 0, 0, 0));
+        OrderPassing other = Given.dates(2);
         EXPECT.same("another object's dates", x.count(0), 0);
         EXPECT.same("the other's dates", other.count(0), 2);
     }
@@ -93,36 +59,36 @@ public final class PromisesTest {
     private static void date() {
         OrderPassing x = new OrderPassing();
         for (int i = 0; i < 6; i++) {
-            noSuch("date " + i + " is not yet", () -> x.member(x.count(0)));
+            EXPECT.noSuch("date " + i + " is not yet", () -> x.member(x.count(0)));
             EXPECT.same("date", x.date(), i);
             EXPECT.same("first weight", x.weight(i, 11, 0), 0);
         }
-        state("seventh date", x::date);
-        state("eighth date", x::date);
+        EXPECT.state("seventh date", x::date);
+        EXPECT.state("eighth date", x::date);
         EXPECT.same("dates", x.count(0), 6);
     }
 
     private static void weight() {
-        OrderPassing x = withDates(2);
+        OrderPassing x = Given.dates(2);
         EXPECT.same("weight at first", x.weight(1, 0, 999), 0);
         EXPECT.same("weight before", x.weight(1, 0, 7), 999);
         EXPECT.same("weight before that", x.weight(1, 0, 7), 7);
         EXPECT.same("another year", x.weight(1, 11, 3), 0);
         EXPECT.same("another date", x.weight(0, 0, 2), 0);
-        argument("weight -1", () -> x.weight(1, 0, -1));
-        argument("weight 1000", () -> x.weight(1, 0, 1000));
-        noSuch("date before weight", () -> x.weight(2, 0, 1000));
-        noSuch("date -1", () -> x.weight(-1, 0, 0));
+        EXPECT.argument("weight -1", () -> x.weight(1, 0, -1));
+        EXPECT.argument("weight 1000", () -> x.weight(1, 0, 1000));
+        EXPECT.noSuch("date before weight", () -> x.weight(2, 0, 1000));
+        EXPECT.noSuch("date -1", () -> x.weight(-1, 0, 0));
         for (int year : WRONG_YEARS) {
-            noSuch("weight year " + year, () -> x.weight(0, year, 5));
-            noSuch("year before weight", () -> x.weight(0, year, -1));
+            EXPECT.noSuch("weight year " + year, () -> x.weight(0, year, 5));
+            EXPECT.noSuch("year before weight", () -> x.weight(0, year, -1));
         }
         EXPECT.same("weight after wrong ones", x.weight(1, 0, 0), 7);
         sum("total", x::total, 24 * 36);
     }
 
     private static void outlier() {
-        OrderPassing x = withDates(1);
+        OrderPassing x = Given.dates(1);
         x.weight(0, 2, 5);
         x.weight(0, 3, 1);
         x.outlier(0, 1, 3);
@@ -136,20 +102,15 @@ public final class PromisesTest {
         sum("no outliers, no weight", k -> x.answered(0, 9, k), 0);
         int[][] wrong = {{-1, 1}, {2, 1}, {0, 0}, {0, 11}, {11, 11}, {11, 10}, {0, -1}, {-1, -1}};
         for (int[] share : wrong) {
-            argument("outlier " + share[0] + " of " + share[1], () -> tellOutlier(x, 0, share[0], share[1]));
+            EXPECT.argument("outlier " + share[0] + " of " + share[1], () -> Given.outlier(x, 0, share[0], share[1]));
         }
-        noSuch("date before share", () -> tellOutlier(x, 1, 2, 1));
-        noSuch("date -1", () -> tellOutlier(x, -1, 0, 1));
+        EXPECT.noSuch("date before share", () -> Given.outlier(x, 1, 2, 1));
+        EXPECT.noSuch("date -1", () -> Given.outlier(x, -1, 0, 1));
         sum("after wrong ones", k -> x.answered(0, 2, k), 600);
     }
 
-    private static Object tellOutlier(OrderPassing x, int date, int above, int below) {
-        x.outlier(date, above, below);
-        return "nothing";
-    }
-
     private static void row() {
-        OrderPassing x = withDates(3);
+        OrderPassing x = Given.dates(3);
         for (int year = 0; year < 12; year++) {
             x.weight(0, year, 1);
             x.weight(1, year, 1);
@@ -165,24 +126,24 @@ public final class PromisesTest {
         sum("years of a", k -> x.answered(0, 3, k), 1728);
         sum("years that are too late", k -> x.answered(0, 4, k), 0);
         sum("years that are too early", k -> x.answered(0, 0, k), 0);
-        OrderPassing y = withDates(2);
+        OrderPassing y = Given.dates(2);
         EXPECT.same("the widest", y.row(1, 0, 0, 11), 0);
-        OrderPassing z = withDates(2);
+        OrderPassing z = Given.dates(2);
         EXPECT.same("the farthest", z.row(1, 0, 11, 11), 0);
         int[][] wrong = {{-1, 0}, {1, 0}, {0, 12}, {12, 12}, {0, -1}, {12, 11}, {0, Integer.MAX_VALUE}};
         for (int[] w : wrong) {
-            argument("row " + w[0] + " .. " + w[1], () -> withDates(2).row(0, 1, w[0], w[1]));
-            argument("also where it must not be", () -> x.row(0, 1, w[0], w[1]));
-            noSuch("dates before least and most", () -> x.row(0, 3, w[0], w[1]));
-            noSuch("dates before least and most", () -> x.row(3, 0, w[0], w[1]));
+            EXPECT.argument("row " + w[0] + " .. " + w[1], () -> Given.dates(2).row(0, 1, w[0], w[1]));
+            EXPECT.argument("also where it must not be", () -> x.row(0, 1, w[0], w[1]));
+            EXPECT.noSuch("dates before least and most", () -> x.row(0, 3, w[0], w[1]));
+            EXPECT.noSuch("dates before least and most", () -> x.row(3, 0, w[0], w[1]));
         }
-        noSuch("a is -1", () -> x.row(-1, 0, 0, 0));
-        noSuch("b is -1", () -> x.row(0, -1, 0, 0));
+        EXPECT.noSuch("a is -1", () -> x.row(-1, 0, 0, 0));
+        EXPECT.noSuch("b is -1", () -> x.row(0, -1, 0, 0));
         EXPECT.same("rows", x.count(1), 2);
     }
 
     private static void rowsAreTrees() {
-        OrderPassing x = withDates(6);
+        OrderPassing x = Given.dates(6);
         EXPECT.same("a date with itself", x.row(0, 0, 0, 11), -1);
         EXPECT.same("row", x.row(0, 1, 0, 1), 0);
         EXPECT.same("again", x.row(0, 1, 0, 1), -1);
@@ -197,7 +158,7 @@ public final class PromisesTest {
         EXPECT.same("then it is joined", x.row(4, 5, 0, 1), -1);
         EXPECT.same("rows", x.count(1), 4);
         EXPECT.same("members", x.count(2), 2);
-        OrderPassing y = withDates(6);
+        OrderPassing y = Given.dates(6);
         for (int i = 0; i < 5; i++) {
             EXPECT.same("a chain of six", y.row(i, i + 1, 0, 0), i);
         }
@@ -205,25 +166,25 @@ public final class PromisesTest {
     }
 
     private static void member() {
-        OrderPassing x = withDates(4);
+        OrderPassing x = Given.dates(4);
         EXPECT.same("member", x.member(1), 0);
         EXPECT.same("again", x.member(1), -1);
         EXPECT.same("row", x.row(2, 1, 0, 11), 1);
         EXPECT.same("its tree has one", x.member(2), -1);
         EXPECT.same("another tree", x.member(3), 2);
         EXPECT.same("another tree", x.member(0), 3);
-        noSuch("date 4", () -> x.member(4));
-        noSuch("date -1", () -> x.member(-1));
-        noSuch("date MAX", () -> x.member(Integer.MAX_VALUE));
+        EXPECT.noSuch("date 4", () -> x.member(4));
+        EXPECT.noSuch("date -1", () -> x.member(-1));
+        EXPECT.noSuch("date MAX", () -> x.member(Integer.MAX_VALUE));
         EXPECT.same("members", x.count(2), 3);
-        OrderPassing y = withDates(6);
+        OrderPassing y = Given.dates(6);
         for (int i = 0; i < 6; i++) {
             EXPECT.same("six members", y.member(5 - i), i);
         }
     }
 
     private static void total() {
-        OrderPassing x = withDates(2);
+        OrderPassing x = Given.dates(2);
         x.weight(0, 3, 5);
         sum("a date without weights", x::total, 0);
         x.weight(1, 4, 2);
@@ -233,13 +194,13 @@ public final class PromisesTest {
         x.member(1);
         sum("with two members", x::total, 60 * 24 * 4 * 8);
         for (int digit : WRONG_DIGITS) {
-            noSuch("total digit " + digit, () -> x.total(digit));
+            EXPECT.noSuch("total digit " + digit, () -> x.total(digit));
         }
         EXPECT.same("digit 47", x.total(47), 0);
     }
 
     private static void totalOfTheGreatest() {
-        OrderPassing x = withDates(6);
+        OrderPassing x = Given.dates(6);
         for (int date = 0; date < 6; date++) {
             for (int year = 0; year < 12; year++) {
                 x.weight(date, year, 999);
@@ -247,11 +208,11 @@ public final class PromisesTest {
             x.outlier(date, date * 2, 10);
         }
         BigInteger each = BigInteger.valueOf(12 * 10 * 999);
-        EXPECT.same("free", read(x::total), each.multiply(BigInteger.valueOf(12)).pow(6));
+        EXPECT.same("free", Given.sum(x::total), each.multiply(BigInteger.valueOf(12)).pow(6));
         x.member(0);
         BigInteger rest = each.pow(6).multiply(BigInteger.valueOf(12).pow(5));
         // a member's year y leaves y + 1 years to the first bound and 12 - y to the last one
-        EXPECT.same("one member", read(x::total), rest.multiply(BigInteger.valueOf(364)));
+        EXPECT.same("one member", Given.sum(x::total), rest.multiply(BigInteger.valueOf(364)));
         for (int date = 1; date < 6; date++) {
             x.member(date);
         }
@@ -261,13 +222,13 @@ public final class PromisesTest {
             pairs = pairs.add(BigInteger.valueOf(length).pow(6).multiply(BigInteger.valueOf(13 - length)));
             last = last.add(BigInteger.valueOf(length).pow(6));
         }
-        EXPECT.same("six members", read(x::total), each.pow(6).multiply(pairs));
-        EXPECT.same("six members, last 11", read(k -> x.bound(1, 11, k)), each.pow(6).multiply(last));
+        EXPECT.same("six members", Given.sum(x::total), each.pow(6).multiply(pairs));
+        EXPECT.same("six members, last 11", Given.sum(k -> x.bound(1, 11, k)), each.pow(6).multiply(last));
         EXPECT.same("narrow of the greatest", x.narrow(0, 1000, 1000), 11);
     }
 
     private static void answered() {
-        OrderPassing x = withDates(2);
+        OrderPassing x = Given.dates(2);
         x.weight(0, 0, 1);
         x.weight(0, 11, 2);
         x.weight(1, 11, 3);
@@ -278,18 +239,18 @@ public final class PromisesTest {
         sum("out of the row", k -> x.answered(0, 0, k), 0);
         x.member(1);
         sum("with bounds", k -> x.answered(0, 11, k), 24 * 36 * 12);
-        noSuch("date 2", () -> x.answered(2, 0, 0));
-        noSuch("date -1", () -> x.answered(-1, 0, 0));
+        EXPECT.noSuch("date 2", () -> x.answered(2, 0, 0));
+        EXPECT.noSuch("date -1", () -> x.answered(-1, 0, 0));
         for (int i = 0; i < 4; i++) {
             int year = WRONG_YEARS[i];
             int digit = WRONG_DIGITS[i];
-            noSuch("answered year " + year, () -> x.answered(0, year, 0));
-            noSuch("answered digit " + digit, () -> x.answered(0, 0, digit));
+            EXPECT.noSuch("answered year " + year, () -> x.answered(0, year, 0));
+            EXPECT.noSuch("answered digit " + digit, () -> x.answered(0, 0, digit));
         }
     }
 
     private static void bound() {
-        OrderPassing x = withDates(3);
+        OrderPassing x = Given.dates(3);
         x.weight(0, 4, 1);
         x.weight(1, 6, 1);
         x.weight(2, 9, 1);
@@ -297,13 +258,13 @@ public final class PromisesTest {
             int which = WRONG_BOUNDS[i];
             int year = WRONG_YEARS[i];
             int digit = WRONG_DIGITS[i];
-            noSuch("before the state: bound " + which, () -> x.bound(which, 0, 0));
-            noSuch("before the state: year " + year, () -> x.bound(0, year, 0));
-            noSuch("before the state: digit " + digit, () -> x.bound(1, 0, digit));
+            EXPECT.noSuch("before the state: bound " + which, () -> x.bound(which, 0, 0));
+            EXPECT.noSuch("before the state: year " + year, () -> x.bound(0, year, 0));
+            EXPECT.noSuch("before the state: digit " + digit, () -> x.bound(1, 0, digit));
         }
-        state("no members", () -> x.bound(0, 0, 0));
+        EXPECT.state("no members", () -> x.bound(0, 0, 0));
         x.row(0, 2, 0, 11);
-        state("a row is no member", () -> x.bound(1, 11, 47));
+        EXPECT.state("a row is no member", () -> x.bound(1, 11, 47));
         x.member(1);
         sum("first before", k -> x.bound(0, 5, k), 1728 * 6);
         sum("first at", k -> x.bound(0, 6, k), 1728 * 6);
@@ -317,12 +278,12 @@ public final class PromisesTest {
         sum("all", x::total, 1728 * 5 * 6);
         for (int i = 0; i < 4; i++) {
             int which = WRONG_BOUNDS[i];
-            noSuch("bound " + which, () -> x.bound(which, 0, 0));
+            EXPECT.noSuch("bound " + which, () -> x.bound(which, 0, 0));
         }
     }
 
     private static void both() {
-        OrderPassing x = withDates(3);
+        OrderPassing x = Given.dates(3);
         x.weight(0, 1, 1);
         x.weight(0, 2, 1);
         x.weight(1, 3, 1);
@@ -342,21 +303,21 @@ public final class PromisesTest {
         sum("through the phase", k -> x.both(2, 8, 1, 3, k), 1728 * 2 * 4);
         for (int date = -1; date < 4; date += 4) {
             int wrong = date;
-            noSuch("a", () -> x.both(wrong, 0, 0, 0, 0));
-            noSuch("b", () -> x.both(0, 0, wrong, 0, 0));
+            EXPECT.noSuch("a", () -> x.both(wrong, 0, 0, 0, 0));
+            EXPECT.noSuch("b", () -> x.both(0, 0, wrong, 0, 0));
         }
         for (int i = 0; i < 4; i++) {
             int year = WRONG_YEARS[i];
             int digit = WRONG_DIGITS[i];
-            noSuch("x", () -> x.both(0, year, 1, 0, 0));
-            noSuch("y", () -> x.both(0, 0, 1, year, 0));
-            noSuch("digit", () -> x.both(0, 0, 1, 0, digit));
+            EXPECT.noSuch("x", () -> x.both(0, year, 1, 0, 0));
+            EXPECT.noSuch("y", () -> x.both(0, 0, 1, year, 0));
+            EXPECT.noSuch("digit", () -> x.both(0, 0, 1, 0, digit));
         }
         sum("after wrong ones", x::total, 1728 * 2 * 4 + 3456 * 3 * 4);
     }
 
     private static void span() {
-        OrderPassing x = withDates(2);
+        OrderPassing x = Given.dates(2);
         EXPECT.same("none", x.span(0, 0), -1);
         EXPECT.same("none", x.span(0, 1), -1);
         x.weight(0, 2, 1);
@@ -370,15 +331,15 @@ public final class PromisesTest {
         x.outlier(0, 1, 10);
         EXPECT.same("least of outliers", x.span(0, 0), 0);
         EXPECT.same("greatest of outliers", x.span(0, 1), 5);
-        noSuch("date 2", () -> x.span(2, 0));
-        noSuch("date -1", () -> x.span(-1, 0));
+        EXPECT.noSuch("date 2", () -> x.span(2, 0));
+        EXPECT.noSuch("date -1", () -> x.span(-1, 0));
         for (int which : WRONG_BOUNDS) {
-            noSuch("which " + which, () -> x.span(0, which));
+            EXPECT.noSuch("which " + which, () -> x.span(0, which));
         }
     }
 
     private static void narrow() {
-        OrderPassing x = withDates(2);
+        OrderPassing x = Given.dates(2);
         EXPECT.same("the sum is 0", x.narrow(0, 1, 1), -1);
         x.weight(1, 0, 1);
         int[] weights = {0, 3, 0, 0, 2, 2, 0, 0, 0, 0, 0, 3};
@@ -397,21 +358,21 @@ public final class PromisesTest {
         EXPECT.same("the last year", x.narrow(0, 3, 7), 1111);
         int[][] wrong = {{0, 1}, {2, 1}, {1, 1001}, {1001, 1001}, {0, 0}, {-1, 1}, {1, 0}, {-2, -1}};
         for (int[] share : wrong) {
-            argument("narrow " + share[0] + " of " + share[1], () -> x.narrow(0, share[0], share[1]));
-            noSuch("date before share", () -> x.narrow(2, share[0], share[1]));
-            noSuch("date before share", () -> x.narrow(-1, share[0], share[1]));
+            EXPECT.argument("narrow " + share[0] + " of " + share[1], () -> x.narrow(0, share[0], share[1]));
+            EXPECT.noSuch("date before share", () -> x.narrow(2, share[0], share[1]));
+            EXPECT.noSuch("date before share", () -> x.narrow(-1, share[0], share[1]));
         }
     }
 
     private static void narrowAtTheEdge() {
-        OrderPassing x = withDates(1);
+        OrderPassing x = Given.dates(1);
         x.weight(0, 0, 999);
         x.weight(0, 5, 1);
         EXPECT.same("just enough", x.narrow(0, 999, 1000), 0);
         EXPECT.same("not enough", x.narrow(0, 1000, 1000), 5);
         x.weight(0, 5, 2);
         EXPECT.same("a hair too little", x.narrow(0, 999, 1000), 5);
-        OrderPassing y = withDates(1);
+        OrderPassing y = Given.dates(1);
         y.weight(0, 7, 1);
         y.outlier(0, 1, 1);
         EXPECT.same("a twelfth is a twelfth", y.narrow(0, 1, 12), 0);
@@ -419,7 +380,7 @@ public final class PromisesTest {
     }
 
     private static void fits() {
-        OrderPassing x = withDates(2);
+        OrderPassing x = Given.dates(2);
         EXPECT.same("no weights", x.fits(), false);
         x.weight(0, 3, 1);
         EXPECT.same("one without", x.fits(), false);
@@ -435,7 +396,7 @@ public final class PromisesTest {
     }
 
     private static void fitless() {
-        OrderPassing x = withDates(4);
+        OrderPassing x = Given.dates(4);
         for (int date = 0; date < 4; date++) {
             x.weight(date, 5, 1);
         }
@@ -445,8 +406,8 @@ public final class PromisesTest {
         EXPECT.same("that one row", x.fitless(0), 2);
         EXPECT.same("no more", x.fitless(1), -1);
         EXPECT.same("far more", x.fitless(Integer.MAX_VALUE), -1);
-        noSuch("k -1", () -> x.fitless(-1));
-        noSuch("k MIN", () -> x.fitless(Integer.MIN_VALUE));
+        EXPECT.noSuch("k -1", () -> x.fitless(-1));
+        EXPECT.noSuch("k MIN", () -> x.fitless(Integer.MIN_VALUE));
         EXPECT.same("what was left out is told still", x.fits(), false);
         EXPECT.same("rows", x.count(1), 2);
         EXPECT.same("members", x.count(2), 1);
@@ -455,13 +416,13 @@ public final class PromisesTest {
         x.weight(2, 6, 1);
         EXPECT.same("above 0", x.fitless(0), -1);
         sum("the member's bounds", x::total, 12 * 12 * 12 * 12 * 6 * 7);
-        noSuch("above 0, k -1", () -> x.fitless(-1));
+        EXPECT.noSuch("above 0, k -1", () -> x.fitless(-1));
         x.weight(3, 5, 0);
         EXPECT.same("0 with nothing told", x.fitless(0), -1);
     }
 
     private static void fitlessGoesByNumbers() {
-        OrderPassing x = withDates(5);
+        OrderPassing x = Given.dates(5);
         x.weight(0, 0, 1);
         x.weight(1, 5, 1);
         for (int year = 0; year < 12; year++) {
@@ -484,7 +445,7 @@ public final class PromisesTest {
     }
 
     private static void count() {
-        OrderPassing x = withDates(5);
+        OrderPassing x = Given.dates(5);
         x.row(0, 1, 0, 0);
         x.row(1, 2, 0, 0);
         x.member(2);
@@ -497,27 +458,27 @@ public final class PromisesTest {
         EXPECT.same("members that must not be", x.count(2), 1);
         int[] wrong = {-1, 3, Integer.MIN_VALUE, Integer.MAX_VALUE};
         for (int what : wrong) {
-            noSuch("count " + what, () -> x.count(what));
+            EXPECT.noSuch("count " + what, () -> x.count(what));
         }
     }
 
     private static void wrongCallsChangeNothing() {
-        OrderPassing x = withDates(6);
+        OrderPassing x = Given.dates(6);
         for (int date = 0; date < 6; date++) {
             x.weight(date, date, 3);
         }
         x.member(0);
-        BigInteger before = read(x::total);
-        state("date", x::date);
-        argument("weight", () -> x.weight(0, 0, 1000));
-        argument("outlier", () -> tellOutlier(x, 0, 3, 2));
-        argument("row", () -> x.row(0, 1, 5, 4));
-        noSuch("row", () -> x.row(0, 6, 4, 4));
-        noSuch("member", () -> x.member(6));
-        noSuch("both", () -> x.both(0, 5, 1, 12, 0));
-        noSuch("bound", () -> x.bound(0, 5, 48));
-        argument("narrow", () -> x.narrow(0, 0, 1));
-        EXPECT.same("total", read(x::total), before);
+        BigInteger before = Given.sum(x::total);
+        EXPECT.state("date", x::date);
+        EXPECT.argument("weight", () -> x.weight(0, 0, 1000));
+        EXPECT.argument("outlier", () -> Given.outlier(x, 0, 3, 2));
+        EXPECT.argument("row", () -> x.row(0, 1, 5, 4));
+        EXPECT.noSuch("row", () -> x.row(0, 6, 4, 4));
+        EXPECT.noSuch("member", () -> x.member(6));
+        EXPECT.noSuch("both", () -> x.both(0, 5, 1, 12, 0));
+        EXPECT.noSuch("bound", () -> x.bound(0, 5, 48));
+        EXPECT.argument("narrow", () -> x.narrow(0, 0, 1));
+        EXPECT.same("total", Given.sum(x::total), before);
         EXPECT.same("row", x.row(0, 1, 0, 11), 1);
         EXPECT.same("rows", x.count(1), 1);
     }
